@@ -179,6 +179,7 @@ public final class EncodingChecksTest {
         for (int i = 0; i < 4; i++) {
             x.condition(0, 5, 6, 1, 0);
         }
+        same("6: gaps before", 100, x.gaps());
         same("6: there were", 2, x.clear());
         same("6: none left", 0, x.size(0));
         same("6: W stays", 7, x.size(1));
@@ -283,6 +284,15 @@ public final class EncodingChecksTest {
         same("11: one that clashes with none", 130, x.worst());
         x.condition(2, 3, 3, 0, 0);
         same("11: no clashes", 0, x.worst());
+        for (int variant = 0; variant < 8; variant++) {
+            EncodingChecks y = new EncodingChecks(3);
+            y.encoding(5L, 1L);
+            y.encoding(6L, 2L);
+            y.encoding(5L, 5L);
+            y.encoding(6L, 6L);
+            y.needs(3, 1 << variant);
+            same("11: more pairs with variant " + variant, 1 << variant, y.worst());
+        }
     }
 
     private static void promise12Meaningless() {
@@ -395,6 +405,20 @@ public final class EncodingChecksTest {
         ioobe("17: no such encoding", () -> x.block(1, 0, 0));
         ioobe("17: IndexOutOfBoundsException first", () -> x.block(-2, -1, 7));
         same("17: of none after it", 201, x.block(-1, 2, 0));
+        blocksGreaterThanSixtyFour();
+    }
+
+    private static void blocksGreaterThanSixtyFour() {
+        EncodingChecks x = new EncodingChecks(12);
+        x.encoding(0L, 0L);
+        x.condition(0, 0, 11, 3, 63);
+        x.condition(0, 0, 11, 2, 3585);
+        int[][] due = {{64, 6}, {128, 7}, {256, 8}, {512, 9}, {1024, 10}, {2048, 10}, {3072, 9}, {3584, 0}};
+        same("17: how many great ones", due.length, x.blocks(0));
+        for (int k = 0; k < due.length; k++) {
+            same("17: lowest of great " + k, due[k][0], x.block(0, k, 0));
+            same("17: free of great " + k, due[k][1], x.block(0, k, 1));
+        }
     }
 
     private static void promise18Decode() {
