@@ -1,5 +1,3 @@
-import java.util.Arrays;
-
 /**
  * Encodings of instructions as fixed and free bits with conditions: which have a word in common,
  * which lie in one another, what no encoding has, which bits mean nothing, how many words there are.
@@ -11,7 +9,6 @@ public final class EncodingChecks {
     private static final int MOST_ENCODINGS = 40;
     private static final int MOST_CONDITIONS = 4;
     private static final int MOST_V = 65535;
-    private static final int VARIANTS = 8;
     private static final int VARIANT_SETS = 256;
 
     private final int wordBits;
@@ -25,8 +22,7 @@ public final class EncodingChecks {
     private final WordSet uncovered;
     private boolean uncoveredKnown;
 
-    // Rows for worst() and order(), made once so that the calls make nothing.
-    private final int[] clashTally;
+    // A row for order(), made once so that the call makes nothing.
     private final long[] smallerOnes;
 
     public EncodingChecks(int bits) {
@@ -39,7 +35,6 @@ public final class EncodingChecks {
         shared = new int[MOST_ENCODINGS][MOST_ENCODINGS];
         uncovered = new WordSet(wordBits);
         uncoveredKnown = false;
-        clashTally = new int[VARIANT_SETS];
         smallerOnes = new long[MOST_ENCODINGS];
     }
 
@@ -157,16 +152,18 @@ public final class EncodingChecks {
         return found;
     }
 
+    // All pairs that clash do so in a set that has what each of them needs, and in no other set do
+    // as many: the lowest such set has these variants alone.
     public int worst() {
-        tallyClashesByNeed();
-        addTalliesOfSubsets();
-        int worst = 0;
-        for (int set = 1; set < clashTally.length; set++) {
-            if (clashTally[set] > clashTally[worst]) {
-                worst = set;
+        int needed = 0;
+        for (int a = 0; a < used; a++) {
+            for (int b = a + 1; b < used; b++) {
+                if (clash(a, b)) {
+                    needed |= neededByBoth(a, b);
+                }
             }
         }
-        return worst;
+        return needed;
     }
 
     public int meaningless(int encoding) throws IndexOutOfBoundsException {
@@ -304,30 +301,6 @@ public final class EncodingChecks {
                 return encodings[a].words.lowestCommon(encodings[b].words);
             default:
                 return shared[a][b];
-        }
-    }
-
-    private void tallyClashesByNeed() {
-        Arrays.fill(clashTally, 0);
-        for (int a = 0; a < used; a++) {
-            for (int b = a + 1; b < used; b++) {
-                if (clash(a, b)) {
-                    clashTally[neededByBoth(a, b)]++;
-                }
-            }
-        }
-    }
-
-    // A pair is present in all sets that have what it needs: variant by variant, each set with
-    // the variant takes over what the set without it has.
-    private void addTalliesOfSubsets() {
-        for (int variant = 0; variant < VARIANTS; variant++) {
-            int bit = 1 << variant;
-            for (int set = 0; set < clashTally.length; set++) {
-                if ((set & bit) != 0) {
-                    clashTally[set] += clashTally[set ^ bit];
-                }
-            }
         }
     }
 
