@@ -1,7 +1,8 @@
 /**
  * The sentences of promises 1 to 20 that name a boundary (too small, too large, empty, full, a
  * wrap-around, a refused call), each with a test of its own: the sentence stands above its test.
- * After each refused call it is looked at whether all answers are those of an object without it.
+ * For each way to be refused it is looked at whether all answers after it are those of an object
+ * without that call (but for the 41st encoding, which has a shorter look of its own).
  */
 public final class PromiseEdgesTest {
     private static final Checks CHECKS = new Checks();
@@ -15,6 +16,7 @@ public final class PromiseEdgesTest {
     }
 
     public static void main(String[] args) {
+        noSuchEncoding();
         making();
         conditions();
         operandsNeedsAndClear();
@@ -88,6 +90,27 @@ public final class PromiseEdgesTest {
             x.encoding(0L, 0L);
         }
         return x;
+    }
+
+    // "For all calls with an encoding: IndexOutOfBoundsException (first), when there is no such encoding."
+    private static void noSuchEncoding() {
+        for (int e : new int[] {5, 6, 39, 40, -2, LEAST, MOST}) {
+            noSuchEncoding(e);
+            ioobe("16: blocks of " + e, x -> x.blocks(e));
+            ioobe("17: block of " + e, x -> x.block(e, 0, 0));
+        }
+        noSuchEncoding(NONE);
+    }
+
+    private static void noSuchEncoding(int e) {
+        ioobe("3: condition of " + e, x -> x.condition(e, 0, 3, 2, 0));
+        ioobe("4: operand of " + e, x -> x.operand(e, 0, 3));
+        ioobe("5: needs of " + e, x -> x.needs(e, 255));
+        ioobe("9: alias of 0 and " + e, x -> x.alias(0, e));
+        ioobe("9: alias of " + e + " and 0", x -> x.alias(e, 0));
+        ioobe("12: meaningless of " + e, x -> x.meaningless(e));
+        ioobe("13: idle of " + e, x -> x.idle(e, 0));
+        ioobe("14: count of " + e, x -> x.count(e));
     }
 
     // ---- promises 1 and 2
